@@ -314,9 +314,13 @@ public final class CreditLink {
             }
         }
 
+        /** Two bytes, the lower one first. */
         void addNumber(int number) {
-            add(number);
-            add(number >> 8);
+            if (size < bytes.length - 1) {
+                bytes[size] = (byte) number;
+                bytes[size + 1] = (byte) (number >> 8);
+                size += 2;
+            }
         }
 
         void addPart(Row from, int start, int many) {
@@ -454,6 +458,7 @@ public final class CreditLink {
         private int credits;
         /** Each with its length before it, as it goes in segments. */
         private final Texts toSend;
+        /** How many bytes of the first text to be sent have gone in segments. */
         private int gone;
         private final Texts received;
         private final Row gathered;
@@ -575,12 +580,13 @@ public final class CreditLink {
 
     private static final class Host {
         private final Channel[] channels;
-        /** By a service's number; an MTU of 0 means that it has not been told. */
+        /** These three by a service's number; an MTU of 0 means that it has not been told. */
         private final int[] serviceMtu;
         private final int[] serviceMps;
         private final int[] serviceCredits;
         private final Way way;
         private final ArrayList<Row> waiting;
+        /** The unit that is being sent, and how many bytes of it have gone in packets. */
         private final Row begun;
         private int begunGone;
         private final Row gathered;
@@ -758,38 +764,16 @@ public final class CreditLink {
 
         private void handleSignal() {
             int bytes = gathered.size - UNIT_HEAD - SIGNAL_HEAD;
-            if (bytes < 0) {
-                return;
-            }
             int code = gathered.at(UNIT_HEAD);
             int id = gathered.at(UNIT_HEAD + 1);
-            if (id == 0) {
+            if (bytes < 0 || id == 0) {
                 return;
             }
             if (gathered.numberAt(UNIT_HEAD + 2) != bytes || !isSignal(code, bytes)) {
-                reject(id, NOT_UNDERSTOOD, 1);
+                rejected++;
+                addSignal(CODE_REJECT, id, 1).addNumber(NOT_UNDERSTOOD);
                 return;
             }
-            obey(code, id);
-        }
-
-        private static boolean isSignal(int code, int bytes) {
-            switch (code) {
-                case CODE_REQUEST:
-                case CODE_ANSWER:
-                    return bytes == 10;
-                case CODE_CREDIT:
-                case CODE_LEAVE:
-                case CODE_LEFT:
-                    return bytes == 4;
-                case CODE_REJECT:
-                    return bytes == 2 || bytes == 6;
-                default:
-                    return false;
-            }
-        }
-
-        private void obey(int code, int id) {
             switch (code) {
                 case CODE_REQUEST:
                     onRequest(id);
@@ -812,16 +796,25 @@ public final class CreditLink {
             }
         }
 
+        private static boolean isSignal(int code, int bytes) {
+            switch (code) {
+                case CODE_REQUEST:
+                case CODE_ANSWER:
+                    return bytes == 10;
+                case CODE_CREDIT:
+                case CODE_LEAVE:
+                case CODE_LEFT:
+                    return bytes == 4;
+                case CODE_REJECT:
+                    return bytes == 2 || bytes == 6;
+                default:
+                    return false;
+            }
+        }
+
         /** The k-th number of two bytes in the signal that is gathered. */
         private int told(int k) {
             return gathered.numberAt(UNIT_HEAD + SIGNAL_HEAD + 2 * k);
-        }
-
-        private Row reject(int id, int reason, int numbers) {
-            rejected++;
-            Row signal = addSignal(CODE_REJECT, id, numbers);
-            signal.addNumber(reason);
-            return signal;
         }
 
         private void onRequest(int id) {
@@ -892,16 +885,17 @@ public final class CreditLink {
         }
 
         private void onLeave(int id) {
+            Row answer;
             if (isChannel(told(0)) && channels[told(0) - FIRST_CHANNEL].hasFar(told(1))) {
                 channels[told(0) - FIRST_CHANNEL].close();
-                Row answer = addSignal(CODE_LEFT, id, 2);
-                answer.addNumber(told(0));
-                answer.addNumber(told(1));
+                answer = addSignal(CODE_LEFT, id, 2);
             } else {
-                Row answer = reject(id, NO_SUCH_CHANNEL, 3);
-                answer.addNumber(told(0));
-                answer.addNumber(told(1));
+                rejected++;
+                answer = addSignal(CODE_REJECT, id, 3);
+                answer.addNumber(NO_SUCH_CHANNEL);
             }
+            answer.addNumber(told(0));
+            answer.addNumber(told(1));
         }
 
         private void onLeft() {

@@ -1,3 +1,6 @@
+import java.util.function.IntBinaryOperator;
+import java.util.function.IntUnaryOperator;
+
 /** Short ways to bring a CreditLink into the state that a test needs. */
 final class Link {
     static final int REJECT = 1;
@@ -119,24 +122,36 @@ final class Link {
         return x;
     }
 
+    interface ChannelAnswer {
+        int of(int host, int channel, int what);
+    }
+
     /** All that can be asked for without a change. */
     static String picture(CreditLink x) {
+        return picture(x::channel, x::count, x::octet);
+    }
+
+    static String picture(Model m) {
+        return picture(m::channel, m::count, m::octet);
+    }
+
+    private static String picture(ChannelAnswer channels, IntBinaryOperator counts, IntUnaryOperator octets) {
         StringBuilder all = new StringBuilder();
         for (int host = 0; host < 2; host++) {
             for (int channel = 64; channel < 68; channel++) {
                 all.append(" c").append(host).append('.').append(channel).append(':');
                 for (int what = 0; what < 8; what++) {
-                    all.append(x.channel(host, channel, what)).append(',');
+                    all.append(channels.of(host, channel, what)).append(',');
                 }
             }
             all.append(" n").append(host).append(':');
             for (int what = 0; what < 7; what++) {
-                all.append(x.count(host, what)).append(',');
+                all.append(counts.applyAsInt(host, what)).append(',');
             }
         }
         all.append(" s:");
-        for (int k = 0; x.octet(k) != CreditLink.NONE; k++) {
-            all.append(x.octet(k)).append(',');
+        for (int k = 0; octets.applyAsInt(k) != CreditLink.NONE; k++) {
+            all.append(octets.applyAsInt(k)).append(',');
         }
         return all.toString();
     }

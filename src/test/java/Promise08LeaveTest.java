@@ -3,6 +3,7 @@ public final class Promise08LeaveTest {
     public static void main(String[] args) {
         closesBothSides();
         forgetsWhatWasOnItsWay();
+        forgetsWhereATextHadCome();
         finishesTheUnitThatWasBegun();
         leavesFromBothSidesAtOnce();
         refusesWrongNumbers();
@@ -40,6 +41,24 @@ public final class Promise08LeaveTest {
         Link.settle(y);
         Check.same("receive on a closed one", y.receive(0, 64), 1);
         Check.same("octet(0)", y.octet(0), 8);
+    }
+
+    /** A text that went halfway before the channel left does not shorten the next one. */
+    private static void forgetsWhereATextHadCome() {
+        CreditLink x = Link.opened(50, 23, 1, 100, 23, 1);
+        Link.storeOf(x, 60);
+        x.send(0, 64);
+        Link.channelIs(x, 0, 64, CreditLink.OPEN, 64, 0, 1, 1);
+        x.leave(0, 64);
+        Link.settle(x);
+        x.connect(0, 3, 50, 23, 1);
+        Link.settle(x);
+        Link.storeOf(x, 10);
+        x.send(0, 64);
+        Link.settle(x);
+        Check.same("receive", x.receive(1, 64), 10);
+        Check.same("octet(0)", x.octet(0), 1);
+        Check.same("octet(9)", x.octet(9), 10);
     }
 
     private static void finishesTheUnitThatWasBegun() {

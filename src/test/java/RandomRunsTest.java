@@ -32,29 +32,8 @@ public final class RandomRunsTest {
         while (calls < CALLS) {
             String step = step();
             Check.same("seed " + seed + ", call " + calls + ", " + step + ": state",
-                    Link.picture(x), picture());
+                    Link.picture(x), Link.picture(m));
         }
-    }
-
-    private String picture() {
-        StringBuilder all = new StringBuilder();
-        for (int host = 0; host < 2; host++) {
-            for (int channel = 64; channel < 68; channel++) {
-                all.append(" c").append(host).append('.').append(channel).append(':');
-                for (int what = 0; what < 8; what++) {
-                    all.append(m.channel(host, channel, what)).append(',');
-                }
-            }
-            all.append(" n").append(host).append(':');
-            for (int what = 0; what < 7; what++) {
-                all.append(m.count(host, what)).append(',');
-            }
-        }
-        all.append(" s:");
-        for (int k = 0; m.octet(k) != CreditLink.NONE; k++) {
-            all.append(m.octet(k)).append(',');
-        }
-        return all.toString();
     }
 
     private int below(int bound) {
