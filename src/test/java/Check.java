@@ -1,13 +1,19 @@
+import java.util.function.Consumer;
+import java.util.function.Supplier;
+import java.util.function.ToIntFunction;
+
 /** Looks at answers, prints each one that is not due, and ends a test with 1 if there was one. */
 final class Check {
-    interface Call {
-        void run();
-    }
-
     private static int looked = 0;
     private static int wrong = 0;
+    private static String sentence = "";
 
     private Check() {
+    }
+
+    /** The words of the document that are looked at from here on; a wrong answer tells them. */
+    static void sentence(String words) {
+        sentence = words;
     }
 
     static void same(String what, long got, long due) {
@@ -24,34 +30,52 @@ final class Check {
         }
     }
 
-    static void argument(String what, CreditLink x, Call call) {
-        refused(what, x, call, IllegalArgumentException.class);
+    static void argument(String what, Supplier<CreditLink> made, Consumer<CreditLink> call) {
+        refused(what, made, call, "IllegalArgumentException");
     }
 
-    static void state(String what, CreditLink x, Call call) {
-        refused(what, x, call, IllegalStateException.class);
+    static void state(String what, Supplier<CreditLink> made, Consumer<CreditLink> call) {
+        refused(what, made, call, "IllegalStateException");
     }
 
-    /** What throws changes nothing, so that is looked at here for every call that throws. */
-    private static void refused(String what, CreditLink x, Call call, Class<?> due) {
-        String before = Link.picture(x);
-        same(what, thrownBy(call), due.getSimpleName());
-        same("after " + what + " the state", Link.picture(x), before);
+    static void full(String what, Supplier<CreditLink> made, ToIntFunction<CreditLink> call) {
+        CreditLink x = made.get();
+        same(what, call.applyAsInt(x), CreditLink.FULL);
+        isLikeItsTwin(what, x, made.get());
     }
 
-    static String thrownBy(Call call) {
+    static void none(String what, Supplier<CreditLink> made, ToIntFunction<CreditLink> call) {
+        CreditLink x = made.get();
+        same(what, call.applyAsInt(x), CreditLink.NONE);
+        isLikeItsTwin(what, x, made.get());
+    }
+
+    private static void refused(
+            String what, Supplier<CreditLink> made, Consumer<CreditLink> call, String due) {
+        CreditLink x = made.get();
+        same(what, thrownBy(call, x), due);
+        isLikeItsTwin(what, x, made.get());
+    }
+
+    private static String thrownBy(Consumer<CreditLink> call, CreditLink x) {
         try {
-            call.run();
+            call.accept(x);
         } catch (RuntimeException e) {
             return e.getClass().getSimpleName();
         }
         return "nothing";
     }
 
+    /** A call that changes nothing leaves an object like one that was made so without the call. */
+    private static void isLikeItsTwin(String what, CreditLink x, CreditLink twin) {
+        same("after " + what + " the state", Link.picture(x), Link.picture(twin));
+        same("after " + what + " what goes on", Link.goOn(x), Link.goOn(twin));
+    }
+
     private static void tell(String text) {
         wrong++;
         if (wrong <= 20) {
-            System.out.println(text);
+            System.out.println(sentence.isEmpty() ? text : "\"" + sentence + "\": " + text);
         }
     }
 

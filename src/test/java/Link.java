@@ -27,15 +27,28 @@ final class Link {
     static final int REJECTED = 5;
     static final int GATHERED = 6;
 
+    /** More packets than a test ever has: a program that goes wrong fails, and does not hang. */
+    private static final int MANY = 600;
+
     private Link() {
     }
 
     /** Makes these bytes, and no others, the store. */
     static void store(CreditLink x, int... bytes) {
         x.erase();
-        for (int i = 0; i < bytes.length; i++) {
-            x.feed(1, bytes[i] << 24, 0, 0, 0);
+        for (int i = 0; i < bytes.length; i += 16) {
+            x.feed(Math.min(16, bytes.length - i),
+                    four(bytes, i), four(bytes, i + 4), four(bytes, i + 8), four(bytes, i + 12));
         }
+    }
+
+    /** Four bytes of a row as a number for feed, the highest first. */
+    static int four(int[] bytes, int from) {
+        int all = 0;
+        for (int k = from; k < from + 4; k++) {
+            all = all << 8 | (k < bytes.length ? bytes[k] & 255 : 0);
+        }
+        return all;
     }
 
     /** Bytes 1, 2, .. as the store. */
@@ -83,10 +96,26 @@ final class Link {
 
     static int takeAll(CreditLink x, int host) {
         int many = 0;
-        while (many < 1000 && x.take(host) != CreditLink.NONE) {
+        while (many < MANY && x.take(host) != CreditLink.NONE) {
             many++;
         }
         return many;
+    }
+
+    static void loseAll(CreditLink x, int host) {
+        int most = MANY;
+        while (most > 0 && x.lose(host)) {
+            most--;
+        }
+    }
+
+    /** The way to a host is full of injected packets, so that nothing can be sent on it. */
+    static void block(CreditLink x, int host) {
+        x.erase();
+        int most = MANY;
+        while (most > 0 && x.inject(host, 9, 0) != CreditLink.FULL) {
+            most--;
+        }
     }
 
     /** Both hosts take all until nothing is on the ways. */
@@ -116,9 +145,7 @@ final class Link {
         CreditLink x = new CreditLink();
         x.service(0, 1, mtu, mps, given);
         signal(x, 0, REQUEST, 9, 1, far, farMtu, farMps, credits);
-        while (x.lose(1)) {
-            continue;
-        }
+        loseAll(x, 1);
         return x;
     }
 
@@ -150,8 +177,51 @@ final class Link {
             }
         }
         all.append(" s:");
-        for (int k = 0; octets.applyAsInt(k) != CreditLink.NONE; k++) {
-            all.append(octets.applyAsInt(k)).append(',');
+        int octet = octets.applyAsInt(0);
+        for (int k = 1; octet != CreditLink.NONE; k++) {
+            all.append(octet).append(',');
+            octet = octets.applyAsInt(k);
+        }
+        return all.toString();
+    }
+
+    private static final int IDS_LOOKED_AT = 7;
+
+    /** Calls that show what cannot be asked for: services, and the ids that come next. */
+    static String goOn(CreditLink x) {
+        settle(x);
+        x.connect(0, 1, 30, 31, 32);
+        x.connect(1, 1, 30, 31, 32);
+        settle(x);
+        StringBuilder all = new StringBuilder(states(x, 0)).append(states(x, 1));
+        for (int host = 0; host < 2; host++) {
+            beginSomething(x, host);
+            loseAll(x, 1 - host);
+            for (int id = 1; id <= IDS_LOOKED_AT; id++) {
+                signal(x, host, REJECT, id, 0);
+                all.append(states(x, host));
+            }
+        }
+        return all.toString();
+    }
+
+    /** A signal with an id of the host's own, by which a channel is ASKED or LEAVING. */
+    private static void beginSomething(CreditLink x, int host) {
+        if (x.connect(host, 1, 30, 31, 32) != CreditLink.FULL) {
+            return;
+        }
+        for (int channel = 64; channel < 68; channel++) {
+            if (x.channel(host, channel, STATE) == CreditLink.OPEN) {
+                x.leave(host, channel);
+                return;
+            }
+        }
+    }
+
+    private static String states(CreditLink x, int host) {
+        StringBuilder all = new StringBuilder(" ");
+        for (int channel = 64; channel < 68; channel++) {
+            all.append(x.channel(host, channel, STATE));
         }
         return all.toString();
     }

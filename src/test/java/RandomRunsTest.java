@@ -1,10 +1,13 @@
+import java.util.Arrays;
 import java.util.Random;
 import java.util.function.IntSupplier;
 
-/** Long runs of calls from fixed seeds: class and model answer the same and look the same. */
+/** Runs of up to 512 calls from fixed seeds: class and model answer the same. */
 public final class RandomRunsTest {
-    private static final int RUNS = 1500;
+    private static final int RUNS = 8000;
     private static final int CALLS = 512;
+    /** What the last step and the picture at the end of a run may need of the calls. */
+    private static final int LAST_CALLS = 120;
     private static final int[] WILD = {
         Integer.MIN_VALUE, -65536, -2, -1, 0, 1, 2, 4, 7, 9, 10, 16, 17, 22, 23, 63, 64, 67, 68, 100, 101,
         127, 128, 255, 256, 1000, 1001, 65535, 65536, Integer.MAX_VALUE
@@ -29,10 +32,29 @@ public final class RandomRunsTest {
     }
 
     private void run(int seed) {
-        while (calls < CALLS) {
-            String step = step();
-            Check.same("seed " + seed + ", call " + calls + ", " + step + ": state",
-                    Link.picture(x), Link.picture(m));
+        Check.sentence("seed " + seed);
+        while (calls < CALLS - LAST_CALLS) {
+            step();
+            look();
+        }
+        both("erase", x::erase, m::erase);
+        Check.same("the state after " + calls + " calls", Link.picture(x), Link.picture(m));
+    }
+
+    /** A question in between, which changes nothing. */
+    private void look() {
+        int host = below(2);
+        int channel = 64 + below(one(1, 2, 4));
+        int what = below(8);
+        int k = below(one(2, 30, 130)) - 1;
+        int die = below(8);
+        if (die < 4) {
+            both("channel(" + host + ", " + channel + ", " + what + ")",
+                    () -> x.channel(host, channel, what), () -> m.channel(host, channel, what));
+        } else if (die < 7) {
+            both("count(" + host + ", " + what + ")", () -> x.count(host, what), () -> m.count(host, what));
+        } else {
+            both("octet(" + k + ")", () -> x.octet(k), () -> m.octet(k));
         }
     }
 
@@ -49,11 +71,9 @@ public final class RandomRunsTest {
         return of[below(of.length)];
     }
 
-    private String both(String call, IntSupplier first, IntSupplier second) {
+    private void both(String call, IntSupplier first, IntSupplier second) {
         calls++;
-        String got = answer(first);
-        Check.same(call, got, answer(second));
-        return call;
+        Check.same("call " + calls + ", " + call, answer(first), answer(second));
     }
 
     private static String answer(IntSupplier call) {
@@ -64,23 +84,23 @@ public final class RandomRunsTest {
         }
     }
 
-    private String step() {
+    private void step() {
         int host = or(below(2));
         int channel = or(64 + below(one(1, 2, 4)));
         int die = below(100);
         if (die < 30) {
-            return both("take(" + host + ")", () -> x.take(host), () -> m.take(host));
+            both("take(" + host + ")", () -> x.take(host), () -> m.take(host));
         } else if (die < 34) {
-            return both("lose(" + host + ")", () -> x.lose(host) ? 1 : 0, () -> m.lose(host) ? 1 : 0);
+            both("lose(" + host + ")", () -> x.lose(host) ? 1 : 0, () -> m.lose(host) ? 1 : 0);
         } else if (die < 50) {
-            return open(host);
+            open(host);
         } else if (die < 62) {
-            return send(host, channel);
+            send(host, channel);
         } else if (die < 69) {
             int credits = or(one(1, 1, 2, 3, 5, 1000));
-            return both("grant", () -> x.grant(host, channel, credits), () -> m.grant(host, channel, credits));
+            both("grant", () -> x.grant(host, channel, credits), () -> m.grant(host, channel, credits));
         } else if (die < 71) {
-            return both("leave(" + host + ", " + channel + ")", () -> {
+            both("leave(" + host + ", " + channel + ")", () -> {
                 x.leave(host, channel);
                 return 0;
             }, () -> {
@@ -88,37 +108,40 @@ public final class RandomRunsTest {
                 return 0;
             });
         } else if (die < 76) {
-            return both("receive(" + host + ", " + channel + ")",
+            both("receive(" + host + ", " + channel + ")",
                     () -> x.receive(host, channel), () -> m.receive(host, channel));
         } else if (die < 78) {
             int what = or(below(8));
             both("channel", () -> x.channel(host, channel, what), () -> m.channel(host, channel, what));
-            return both("count", () -> x.count(host, what), () -> m.count(host, what));
+            both("count", () -> x.count(host, what), () -> m.count(host, what));
+            both("octet(" + what + ")", () -> x.octet(what), () -> m.octet(what));
         } else if (die < 90) {
-            return injectSignal(host);
+            injectSignal(host);
         } else if (die < 95) {
-            return injectSegment(host, channel);
+            injectSegment(host, channel);
+        } else {
+            feedSome(below(40));
+            injectStore(host, one(5, 64, 65, 70, 9, or(0)), one(0, 0, 1, 30, or(100)));
         }
-        feedSome(below(40));
-        return injectStore(host, one(5, 64, 65, 70, 9, or(0)), one(0, 0, 1, 30, or(100)));
     }
 
-    private String open(int host) {
+    private void open(int host) {
         int service = or(1 + below(3));
         int mtu = or(one(23, 24, 30, 50, 100));
         int mps = or(one(23, 24, 30, 50, 100));
         int credits = or(one(0, 1, 2, 3, 10, 1000));
         if (below(2) == 0) {
-            return both("service", () -> {
+            both("service", () -> {
                 x.service(host, service, mtu, mps, credits);
                 return 0;
             }, () -> {
                 m.service(host, service, mtu, mps, credits);
                 return 0;
             });
+        } else {
+            both("connect", () -> x.connect(host, service, mtu, mps, credits),
+                    () -> m.connect(host, service, mtu, mps, credits));
         }
-        return both("connect", () -> x.connect(host, service, mtu, mps, credits),
-                () -> m.connect(host, service, mtu, mps, credits));
     }
 
     private void feedSome(int bytes) {
@@ -134,31 +157,30 @@ public final class RandomRunsTest {
         both("feed(" + many + ")", () -> x.feed(many, a, b, ~a, ~b), () -> m.feed(many, a, b, ~a, ~b));
     }
 
-    private String send(int host, int channel) {
+    private void send(int host, int channel) {
         feedSome(one(0, 1, 20, 21, 22, 23, 30, 60, below(121)));
-        return both("send(" + host + ", " + channel + ")",
+        both("send(" + host + ", " + channel + ")",
                 () -> x.send(host, channel), () -> m.send(host, channel));
     }
 
     private void feedBytes(int... bytes) {
         both("erase", x::erase, m::erase);
-        for (int i = 0; i < bytes.length; i += 4) {
-            int four = 0;
-            for (int k = i; k < i + 4; k++) {
-                four = four << 8 | (k < bytes.length ? bytes[k] & 255 : 0);
-            }
-            int all = four;
-            int many = Math.min(4, bytes.length - i);
-            both("feed", () -> x.feed(many, all, 0, 0, 0), () -> m.feed(many, all, 0, 0, 0));
+        for (int i = 0; i < bytes.length; i += 16) {
+            int many = Math.min(16, bytes.length - i);
+            int a = Link.four(bytes, i);
+            int b = Link.four(bytes, i + 4);
+            int c = Link.four(bytes, i + 8);
+            int d = Link.four(bytes, i + 12);
+            both("feed(" + many + ")", () -> x.feed(many, a, b, c, d), () -> m.feed(many, a, b, c, d));
         }
     }
 
-    private String injectStore(int host, int number, int more) {
-        return both("inject(" + host + ", " + number + ", " + more + ")",
+    private void injectStore(int host, int number, int more) {
+        both("inject(" + host + ", " + number + ", " + more + ")",
                 () -> x.inject(host, number, more), () -> m.inject(host, number, more));
     }
 
-    private String injectSignal(int host) {
+    private void injectSignal(int host) {
         int code = one(20, 20, 21, 22, 22, 6, 7, 1, below(256));
         int near = 64 + below(one(1, 4, 5));
         int far = or(64 + below(one(1, 4, 64)));
@@ -178,11 +200,11 @@ public final class RandomRunsTest {
         bytes[1] = below(20) == 0 ? 0 : 1 + below(one(3, 10, 255));
         bytes[2] = below(20) == 0 ? body.length + 1 : body.length;
         System.arraycopy(body, 0, bytes, 4, body.length);
-        feedBytes(java.util.Arrays.copyOf(bytes, cut));
-        return injectStore(host, 5, 0);
+        feedBytes(Arrays.copyOf(bytes, cut));
+        injectStore(host, 5, 0);
     }
 
-    private String injectSegment(int host, int channel) {
+    private void injectSegment(int host, int channel) {
         int length = one(0, 1, 5, 23, 24, 30, 101);
         int size = one(0, 1, 2, 3, length + 2, 23, 24, 30);
         int[] bytes = new int[Math.min(size, 120)];
@@ -190,6 +212,6 @@ public final class RandomRunsTest {
             bytes[i] = i == 0 ? length : i == 1 ? 0 : below(256);
         }
         feedBytes(bytes);
-        return injectStore(host, channel, 0);
+        injectStore(host, channel, 0);
     }
 }
