@@ -33,7 +33,7 @@ public final class FaceTest {
     public static void main(String[] args) throws IllegalAccessException {
         Set<String> found = new TreeSet<>();
         for (Field field : CreditLink.class.getDeclaredFields()) {
-            if (!Modifier.isPrivate(field.getModifiers())) {
+            if (!Modifier.isPrivate(field.getModifiers()) && !field.isSynthetic()) {
                 found.add(field.getName() + "=" + field.getInt(null));
             }
         }
@@ -41,7 +41,7 @@ public final class FaceTest {
             found.add(words(made.getName(), made));
         }
         for (Method method : CreditLink.class.getDeclaredMethods()) {
-            if (!Modifier.isPrivate(method.getModifiers())) {
+            if (!Modifier.isPrivate(method.getModifiers()) && !method.isSynthetic()) {
                 found.add(words(method.getReturnType() + " " + method.getName(), method));
             }
         }
